@@ -450,9 +450,6 @@ public final class KnotBand {
         }
 
         private void chooseKinds(Picture picture) {
-            for (int row = 0; row < MOST_ROWS; row++) {
-                picture.kinds[row] = 0;
-            }
             int standing = picture.firstStart;
             for (int k = 0; k < knotCount; k++) {
                 int kind = leastKind(k, standing);
@@ -502,15 +499,15 @@ public final class KnotBand {
         private static final int BITS = 64;
         private static final long ALL = -1L;
         private static final long BLOCK = 0xFFFFL;
-        private static final long THIRD_IS_0 = BLOCK;
-        private static final long FOURTH_IS_0 = 0x000F000F000F000FL;
-        private static final long FIFTH_IS_0 = 0x1111111111111111L;
+        private static final long PLACE_3_IS_0 = BLOCK;
+        private static final long PLACE_4_IS_0 = 0x000F000F000F000FL;
+        private static final long PLACE_5_IS_0 = 0x1111111111111111L;
         /** Where place 3's colour is less than place 4's, by 1, 2 and 3; the exchanged row stands 12, 24, 36 higher. */
-        private static final long[] THIRD_LESS = {0x0000F0000F0000F0L, 0x00000000F0000F00L, 0x000000000000F000L};
-        private static final int THIRD_APART = 12;
+        private static final long[] PLACE_3_LESS = {0x0000F0000F0000F0L, 0x00000000F0000F00L, 0x000000000000F000L};
+        private static final int PLACE_3_APART = 12;
         /** The same of places 4 and 5; the exchanged row stands 3, 6, 9 higher. */
-        private static final long[] FOURTH_LESS = {0x0842084208420842L, 0x0084008400840084L, 0x0008000800080008L};
-        private static final int FOURTH_APART = 3;
+        private static final long[] PLACE_4_LESS = {0x0842084208420842L, 0x0084008400840084L, 0x0008000800080008L};
+        private static final int PLACE_4_APART = 3;
 
         private final long[] words = new long[WORDS];
 
@@ -536,11 +533,11 @@ public final class KnotBand {
         private static long having(int w, int place, int colour) {
             switch (place) {
                 case 3:
-                    return THIRD_IS_0 << (16 * colour);
+                    return PLACE_3_IS_0 << (16 * colour);
                 case 4:
-                    return FOURTH_IS_0 << (4 * colour);
+                    return PLACE_4_IS_0 << (4 * colour);
                 case 5:
-                    return FIFTH_IS_0 << colour;
+                    return PLACE_5_IS_0 << colour;
                 default:
                     return ((w >> (2 * (2 - place))) & 3) == colour ? ALL : 0L;
             }
@@ -556,10 +553,10 @@ public final class KnotBand {
                     spreadAcross(other.words);
                     break;
                 case 3:
-                    spreadInside(other.words, THIRD_LESS, THIRD_APART);
+                    spreadInside(other.words, PLACE_3_LESS, PLACE_3_APART);
                     break;
                 case 4:
-                    spreadInside(other.words, FOURTH_LESS, FOURTH_APART);
+                    spreadInside(other.words, PLACE_4_LESS, PLACE_4_APART);
                     break;
                 default:
                     spreadBetween(other.words, 2 * (1 - left));

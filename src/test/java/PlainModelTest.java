@@ -129,6 +129,10 @@ public final class PlainModelTest {
         both("tie", 1);
         askBand(2, threads, 16);
         askPicture(1, threads);
+        both("colour", 2, 0, 1);
+        both("colour", 2, 1, 2);
+        both("unlike", 0, 2);
+        both("unlike", 2, 1);
     }
 
     /** Makes band 0, of any kinds and colours: its colours. */

@@ -314,6 +314,14 @@ public final class PromisesTest {
         bench.band(6);
         bench.band(6);
         checks.same("10 no rows", bench.unlike(3, 4), 0);
+        for (int thread = 0; thread < 6; thread++) {
+            bench.colour(4, thread, 1);
+        }
+        for (int rows = 1; rows <= 16; rows++) {
+            bench.row(3, 0);
+            bench.row(4, 0);
+            checks.same("10 all of " + rows + " rows", bench.unlike(3, 4), 3 * rows - rows / 2);
+        }
         for (int far : FAR) {
             checks.noElement("10 band " + far, () -> bench.unlike(far, 0));
             checks.noElement("10 other " + far, () -> bench.unlike(0, far));
