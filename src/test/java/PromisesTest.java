@@ -589,7 +589,7 @@ public final class PromisesTest {
         }
     }
 
-    /** Three threads: row 0 shows that 1 is there, row 1 that 2 is; only the third place is free, and it must be 0. */
+    /** Three threads, 3 and 0 at the sides: row 0 wishes that 1 is between them, row 1 that 2 is; it can't be both. */
     private void suspectsTogether() {
         bench = new KnotBand();
         bench.picture(3, 4);
