@@ -5,12 +5,24 @@ import java.util.function.IntSupplier;
 final class Checks {
     private int asked = 0;
     private int wrong = 0;
+    private String about = "";
+
+    /** What the checks from here on are about is said ahead of each that fails. */
+    void about(String subject) {
+        about = subject + " | ";
+    }
 
     void same(String what, long got, long want) {
         asked++;
         if (got != want) {
-            wrong++;
-            System.out.println(what + ": answered " + got + ", due is " + want);
+            fail(what, "answered " + got + ", due is " + want);
+        }
+    }
+
+    void sameText(String what, String got, String want) {
+        asked++;
+        if (!got.equals(want)) {
+            fail(what, "is " + got + ", due is " + want);
         }
     }
 
@@ -33,8 +45,22 @@ final class Checks {
             }
             came = "threw " + e;
         }
+        fail(what, came + ", due is a throw of " + due.getSimpleName());
+    }
+
+    /** Runs a test; if something is thrown out of it, that is one wrong answer, and not the end of all tests. */
+    void alone(Runnable test) {
+        try {
+            test.run();
+        } catch (RuntimeException e) {
+            asked++;
+            fail("a call", "threw " + e);
+        }
+    }
+
+    private void fail(String what, String came) {
         wrong++;
-        System.out.println(what + ": " + came + ", due is a throw of " + due.getSimpleName());
+        System.out.println(about + what + ": " + came);
     }
 
     /** Ends the test: exit code 1 if an answer was wrong. */
