@@ -24,8 +24,12 @@ final class Document {
         return line.replaceFirst("^`[^`]*`: ", "");
     }
 
+    String wordsOf(String section) {
+        return sections.getOrDefault(section, "");
+    }
+
     boolean has(String section, String words) {
-        return sections.getOrDefault(section, "").contains(words);
+        return wordsOf(section).contains(words);
     }
 
     void quote(String section, String words) {

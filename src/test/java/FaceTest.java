@@ -1,40 +1,29 @@
+import java.io.IOException;
 import java.lang.reflect.Constructor;
+import java.lang.reflect.Executable;
 import java.lang.reflect.Field;
+import java.lang.reflect.Member;
 import java.lang.reflect.Method;
 import java.lang.reflect.Modifier;
+import java.nio.file.Path;
 import java.util.Arrays;
 import java.util.Set;
 import java.util.TreeSet;
+import java.util.regex.MatchResult;
+import java.util.regex.Pattern;
+import java.util.stream.Collectors;
 
-/** The class has just the document's face: no member more is seen from outside, and none less. */
+/** The class has just the face that the document tells: no member more is seen from outside, and none less. */
 public final class FaceTest {
-    private static final String[] DUE = {
-        "public int band(int)",
-        "public int colour(int,int,int) throws java.util.NoSuchElementException,java.lang.IllegalArgumentException",
-        "public int row(int,int) throws java.util.NoSuchElementException",
-        "public int knot(int,int,int,int) throws java.util.NoSuchElementException,java.lang.IllegalArgumentException",
-        "public int shows(int,int,int) throws java.util.NoSuchElementException",
-        "public int thread(int,int,int) throws java.util.NoSuchElementException",
-        "public int used(int,int) throws java.util.NoSuchElementException",
-        "public int home(int,int) throws java.util.NoSuchElementException",
-        "public int unlike(int,int) throws java.util.NoSuchElementException,java.lang.IllegalArgumentException",
-        "public int picture(int,int)",
-        "public int see(int,int,int,int) throws java.util.NoSuchElementException,java.lang.IllegalArgumentException",
-        "public int must(int,int,int) throws java.util.NoSuchElementException,java.lang.IllegalArgumentException",
-        "public boolean copy(int,int) throws java.util.NoSuchElementException",
-        "public int starts(int) throws java.util.NoSuchElementException",
-        "public int start(int,int) throws java.util.NoSuchElementException",
-        "public int tie(int) throws java.util.NoSuchElementException",
-        "public int suspect(int,int) throws java.util.NoSuchElementException",
-        "public int count(int) throws java.util.NoSuchElementException",
-        "public KnotBand()",
-        "public static final int NONE",
-    };
+    /** The constant, the constructor and the methods of promises 2 to 19. */
+    private static final int MEMBERS = 20;
+    private static final Pattern TOLD = Pattern.compile("public [^;{]*(?=;)");
 
-    public static void main(String[] args) {
+    public static void main(String[] args) throws IOException, IllegalAccessException {
         Checks checks = new Checks();
-        Set<String> due = new TreeSet<>(Arrays.asList(DUE));
+        Set<String> due = toldBy(new Document(Path.of("..", "shared", "DOC.md")));
         Set<String> seen = seenFromOutside();
+        checks.same("members told", due.size(), MEMBERS);
         for (String member : due) {
             checks.same("there is " + member, seen.contains(member) ? 1 : 0, 1);
         }
@@ -42,33 +31,64 @@ public final class FaceTest {
             checks.same("the document tells " + member, due.contains(member) ? 1 : 0, 1);
         }
         checks.same("public and final", KnotBand.class.getModifiers(), Modifier.PUBLIC | Modifier.FINAL);
-        checks.same("NONE", KnotBand.NONE, -1);
+        checks.sameText("the class above", KnotBand.class.getSuperclass().getName(), "java.lang.Object");
+        checks.same("the interfaces", KnotBand.class.getInterfaces().length, 0);
         checks.same("a private method with a public one's name", namesTwice(), 0);
+        for (Class<?> inside : KnotBand.class.getDeclaredClasses()) {
+            int kind = inside.getModifiers() & (Modifier.PUBLIC | Modifier.PROTECTED | Modifier.STATIC);
+            checks.same("only static " + inside.getSimpleName(), kind, Modifier.STATIC);
+        }
         checks.end("FaceTest");
     }
 
-    private static Set<String> seenFromOutside() {
+    /** The members as the document writes them, but for the names of parameters, which are free. */
+    private static Set<String> toldBy(Document document) {
+        return TOLD.matcher(document.wordsOf("The public face")).results()
+            .map(MatchResult::group)
+            .map(member -> member.replaceAll("int \\w+(?=[,)])", "int"))
+            .collect(Collectors.toCollection(TreeSet::new));
+    }
+
+    private static Set<String> seenFromOutside() throws IllegalAccessException {
         Set<String> seen = new TreeSet<>();
         for (Method method : KnotBand.class.getDeclaredMethods()) {
-            if (!Modifier.isPrivate(method.getModifiers())) {
-                seen.add(plain(method.toString()));
+            if (isSeen(method)) {
+                seen.add(modifiers(method) + method.getReturnType() + " " + method.getName() + takesAndThrows(method));
             }
         }
         for (Constructor<?> constructor : KnotBand.class.getDeclaredConstructors()) {
-            if (!Modifier.isPrivate(constructor.getModifiers())) {
-                seen.add(plain(constructor.toString()));
+            if (isSeen(constructor)) {
+                seen.add(modifiers(constructor) + constructor.getName() + takesAndThrows(constructor));
             }
         }
         for (Field field : KnotBand.class.getDeclaredFields()) {
-            if (!Modifier.isPrivate(field.getModifiers())) {
-                seen.add(plain(field.toString()));
+            if (isSeen(field)) {
+                seen.add(modifiers(field) + field.getType() + " " + field.getName() + valueOf(field));
             }
         }
         return seen;
     }
 
-    private static String plain(String member) {
-        return member.replace("KnotBand.", "");
+    private static boolean isSeen(Member member) {
+        return !Modifier.isPrivate(member.getModifiers());
+    }
+
+    private static String modifiers(Member member) {
+        return Modifier.toString(member.getModifiers()) + " ";
+    }
+
+    private static String takesAndThrows(Executable executable) {
+        String takes = "(" + simpleNames(executable.getParameterTypes()) + ")";
+        Class<?>[] thrown = executable.getExceptionTypes();
+        return thrown.length == 0 ? takes : takes + " throws " + simpleNames(thrown);
+    }
+
+    private static String simpleNames(Class<?>[] types) {
+        return Arrays.stream(types).map(Class::getSimpleName).collect(Collectors.joining(", "));
+    }
+
+    private static String valueOf(Field field) throws IllegalAccessException {
+        return Modifier.isStatic(field.getModifiers()) ? " = " + field.get(null) : "";
     }
 
     private static int namesTwice() {
